@@ -257,10 +257,6 @@ public final class NetsCut {
         return law.findClause(author, what, minute, words);
     }
 
-    private boolean isAllowed(int author, int what, int ship, int x, int y, int minute) {
-        return law.allows(findMay(author, what, ship, x, y, minute), what);
-    }
-
     private long meshFor(int author, int ship, int x, int y, int minute) {
         askOf(ship, x, y, minute);
         return law.sumOf(law.findClause(author, Law.MESH, minute, words), words);
@@ -270,7 +266,7 @@ public final class NetsCut {
         if (!canAsk(author, ship, x, y, minute) || !lies(what, 0, WHATS - 1)) {
             return NONE;
         }
-        return isAllowed(author, what, ship, x, y, minute) ? 1 : 0;
+        return law.allows(findMay(author, what, ship, x, y, minute), what) ? 1 : 0;
     }
 
     public long mesh(int author, int ship, int x, int y, int minute) {
@@ -1334,7 +1330,14 @@ public final class NetsCut {
                     at++;
                 }
             } else if (lies(first, '0', '9')) {
-                advanceNumber();
+                token = NUMBER;
+                number = 0;
+                digits = 0;
+                while (at < length && lies(byteAt(at), '0', '9')) {
+                    number = digits < DIGITS ? number * 10 + byteAt(at) - '0' : number;
+                    digits++;
+                    at++;
+                }
             } else if (first == END) {
                 token = END;
             } else {
@@ -1344,19 +1347,6 @@ public final class NetsCut {
                     at++;
                     token = first + WITH_EQUAL;
                 }
-            }
-        }
-
-        private void advanceNumber() {
-            token = NUMBER;
-            number = 0;
-            digits = 0;
-            while (at < length && lies(byteAt(at), '0', '9')) {
-                if (digits < DIGITS) {
-                    number = number * 10 + byteAt(at) - '0';
-                }
-                digits++;
-                at++;
             }
         }
     }
