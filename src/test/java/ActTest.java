@@ -44,6 +44,18 @@ public final class ActTest {
         CHECK.due("no mesh told", x.kept(1, 2), 1);
         CHECK.due("the mesh is for fish alone", x.kept(2, 0), 1);
         CHECK.due("may not cut", x.kept(2, 1), 0);
+        NetsCut y = new NetsCut();
+        y.ship(0, 0, 1, 0);
+        Check.enact(y, 0, 0, "may cut if x = 3 and y = 9;may lean if minute = 2");
+        y.clock(2);
+        y.act(0, 2, 3, 9, 0);
+        y.act(0, 2, 9, 3, 0);
+        y.act(0, 3, 0, 0, 2);
+        y.act(0, 3, 0, 0, 1);
+        CHECK.due("the cell", y.kept(0, 0), 1);
+        CHECK.due("another cell", y.kept(1, 0), 0);
+        CHECK.due("the minute", y.kept(2, 0), 1);
+        CHECK.due("another minute", y.kept(3, 0), 0);
         CHECK.due("act", x.kept(3, 0), -1);
         CHECK.due("act", x.kept(-1, 0), -1);
         CHECK.due("author", x.kept(0, 3), -1);
@@ -58,6 +70,12 @@ public final class ActTest {
     }
 
     private static void broken() {
+        NetsCut one = new NetsCut();
+        one.ship(0, 0, 1, 0);
+        Check.enact(one, 0, 0, "not fish");
+        CHECK.due("no acts", one.broken(0, 0), 0);
+        one.act(0, 0, 0, 0, 0);
+        CHECK.due("the first act", one.broken(0, 0), 1);
         NetsCut x = new NetsCut();
         x.ship(0, 0, 1, 60);
         x.ship(1, 0, 1, 50);
@@ -67,6 +85,7 @@ public final class ActTest {
                 x.act(ship, what, 0, 0, 0);
             }
         }
+        CHECK.due("side 1 by side 1", x.broken(1, 1), 3);
         CHECK.due("side 0 by the court", x.broken(0, 2), 2);
         CHECK.due("side 1 by the court", x.broken(1, 2), 4);
         CHECK.due("side 1 by side 0", x.broken(1, 0), 3);

@@ -7,6 +7,8 @@ public final class HookTest {
 
     private int w;
     private int h;
+    /** What is known of the warder's games already, 0 if nothing. */
+    private final int[] known = new int[9 * 25 * 25 * 26];
 
     public static void main(String[] args) {
         byHand();
@@ -56,25 +58,32 @@ public final class HookTest {
 
     private static void byPlaying() {
         Random random = new Random(3);
-        for (int run = 0; run < 3000; run++) {
-            HookTest game = new HookTest();
-            game.w = 1 + random.nextInt(5);
-            game.h = 1 + random.nextInt(5);
-            int cells = game.w * game.h;
-            int trawler = random.nextInt(cells);
-            int warder = random.nextInt(cells);
-            int frigate = random.nextInt(cells + 1) - 1;
-            int n = random.nextInt(frigate < 0 ? 6 : 4);
-            if (warder == frigate) {
-                continue;
+        for (int w = 1; w <= 5; w++) {
+            for (int h = 1; h <= 5; h++) {
+                HookTest game = new HookTest();
+                game.w = w;
+                game.h = h;
+                for (int run = 0; run < 600; run++) {
+                    game.compare(random);
+                }
             }
-            NetsCut x = new NetsCut();
-            int value = game.warderGoes(trawler, warder, frigate, n);
-            String call = "hook(" + game.w + ", " + game.h + ", " + trawler + ", " + warder + ", " + frigate
-                    + ", " + n + ")";
-            CHECK.due(call, x.hook(game.w, game.h, trawler, warder, frigate, n), value > n ? -2 : value);
-            CHECK.due("hooks by " + call, x.hooks(), game.firstMove(trawler, warder, frigate, n, value));
         }
+    }
+
+    private void compare(Random random) {
+        int cells = w * h;
+        int trawler = random.nextInt(cells);
+        int warder = random.nextInt(cells);
+        int frigate = random.nextInt(2) * (1 + random.nextInt(cells)) - 1;
+        int n = random.nextInt(9);
+        if (warder == frigate) {
+            return;
+        }
+        NetsCut x = new NetsCut();
+        int value = warderGoes(trawler, warder, frigate, n);
+        String call = "hook(" + w + ", " + h + ", " + trawler + ", " + warder + ", " + frigate + ", " + n + ")";
+        CHECK.due(call, x.hook(w, h, trawler, warder, frigate, n), value > n ? -2 : value);
+        CHECK.due("hooks by " + call, x.hooks(), firstMove(trawler, warder, frigate, n, value));
     }
 
     private int firstMove(int t, int wa, int f, int n, int value) {
@@ -101,12 +110,17 @@ public final class HookTest {
         if (n == 0) {
             return LATE;
         }
+        int place = ((n * 25 + t) * 25 + wa) * 26 + f + 1;
+        if (known[place] > 0) {
+            return known[place];
+        }
         int best = LATE;
         for (int to = 0; to < w * h; to++) {
             if (isStep(wa, to) && to != f) {
                 best = Math.min(best, 1 + frigateGoes(t, to, f, n));
             }
         }
+        known[place] = best;
         return best;
     }
 

@@ -102,6 +102,9 @@ public final class LineTest {
         CHECK.due("of side 1", x.inside(1, 0, 3, 3), 0);
         x.chart(-3, 0);
         CHECK.due("by chart 1", x.inside(0, 1, 3, 3), 1L << 39);
+        x.point(1, 0, 0);
+        x.report(0, 0, 3, 0, 3);
+        CHECK.due("ship 0 inside 1", x.inside(1, 0, 3, 3), 1);
         CHECK.due("side", x.inside(2, 0, 3, 3), -1);
         CHECK.due("chart", x.inside(0, 2, 3, 3), -1);
         CHECK.due("minute", x.inside(0, 0, 9000, 3), -1);
@@ -124,6 +127,11 @@ public final class LineTest {
         CHECK.due("reach 5", x.beside(0, 5), 3);
         CHECK.due("reach 40", x.beside(0, 40), 3);
         CHECK.due("no points", x.beside(1, 40), 0);
+        x.point(1, 0, 0);
+        CHECK.due("nothing there", x.beside(1, 0), 0);
+        CHECK.due("a report of ship 0", x.beside(1, 8), 1);
+        x.chart(3, 3);
+        CHECK.due("by chart 0", x.beside(0, 0), 2);
         CHECK.due("reach 41", x.beside(0, 41), -1);
         CHECK.due("reach -1", x.beside(0, -1), -1);
         CHECK.due("side", x.beside(2, 0), -1);

@@ -114,7 +114,8 @@ public final class SeaTest {
         CHECK.due("others' reports", x.where(1, 8999, 8999), -1);
         CHECK.due("ship", x.where(2, 0, 0), -1);
         CHECK.due("ship", x.where(-1, 0, 0), -1);
-        CHECK.due("minute", x.where(0, 9000, 0), -1);
+        CHECK.due("minute", x.where(0, 9000, 8999), -1);
+        CHECK.due("minute", x.where(0, -1, 8999), -1);
         CHECK.due("known", x.where(0, 8999, 9000), -1);
         CHECK.due("known", x.where(0, 8999, -1), -1);
     }

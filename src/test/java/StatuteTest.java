@@ -358,9 +358,10 @@ public final class StatuteTest {
     private static void wrongInputs() {
         NetsCut x = new NetsCut();
         x.ship(0, 0, 1, 0);
-        Check.enact(x, 0, 0, "may cut;mesh 5");
+        Check.enact(x, 0, 0, "reach 1;may cut;mesh 5");
+        Check.enact(x, 0, 0, "strike 0;may cut;mesh 5");
         int[][] wrong = {
-            {3, 2, 0, 0, 0, 0}, {-1, 2, 0, 0, 0, 0}, {0, 5, 0, 0, 0, 0}, {0, -1, 0, 0, 0, 0},
+            {3, 2, 0, 0, 0, 0}, {-1, 2, 0, 0, 0, 0}, {0, 5, 0, 0, 0, 0}, {0, 6, 0, 0, 0, 0}, {0, 7, 0, 0, 0, 0}, {0, -1, 0, 0, 0, 0},
             {0, 2, 1, 0, 0, 0}, {0, 2, -1, 0, 0, 0}, {0, 2, 0, 24, 0, 0}, {0, 2, 0, -1, 0, 0},
             {0, 2, 0, 0, 24, 0}, {0, 2, 0, 0, -1, 0}, {0, 2, 0, 0, 0, 9000}, {0, 2, 0, 0, 0, -1}};
         for (int[] w : wrong) {

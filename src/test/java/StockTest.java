@@ -201,6 +201,8 @@ public final class StockTest {
         y.age(7, 1000, 5, 1);
         // of age 7 half is caught, half is left and joined by all of age 6, half of which is caught too
         CHECK.due("7 stays 7", y.landed(2, 5, 500, 0, 0), 500 + (500 + 50) / 2);
+        CHECK.due("no effort, all lost", x.landed(30, 0, 0, 1000, 999999), 0);
+        CHECK.due("all caught", x.landed(30, 0, 1000, 1000, 0), 1000 + 6000);
         CHECK.due("years", x.landed(0, 0, 0, 0, 0), -1);
         CHECK.due("years", x.landed(31, 0, 0, 0, 0), -1);
         CHECK.due("mesh", x.landed(1, 200, 0, 0, 0), -1);

@@ -149,6 +149,9 @@ public final class TownTest {
         CHECK.due("a", x.term(-10000, 0), -1);
         CHECK.due("b", x.term(0, 10000), -1);
         CHECK.due("b", x.term(0, -10000), -1);
+        NetsCut y = new NetsCut();
+        CHECK.due("the ends", y.term(-9999, 9999), 0);
+        CHECK.due("the ends", y.sign(-9999, 9999), 1);
         for (int i = 0; i < 9; i++) {
             CHECK.due("term", x.term(9999, -9999), i);
         }

@@ -45,6 +45,7 @@ public final class WayTest {
         x.report(0, 0, 0, 1, 1);
         x.report(1, 1, 1, 1, 1);
         CHECK.due("one nowhere the minute before", x.way(0, 1, 1, 1), -2);
+        CHECK.due("the other one nowhere the minute before", x.way(1, 0, 1, 1), -2);
         CHECK.due("the minute behind", x.way(0, 1, 2, 1), 0);
         CHECK.due("not known", x.way(0, 1, 2, 0), -2);
         CHECK.due("minute 0", x.way(0, 1, 0, 1), -1);
