@@ -67,6 +67,16 @@ public final class BoxTest {
         for (int what : new int[] {-1, 1, 99, 199, 300, Integer.MAX_VALUE, Integer.MIN_VALUE}) {
             CHECK.due("another what", x.escorts(what), NOT_TOLD);
         }
+        NetsCut six = new NetsCut();
+        for (int b = 0; b < 6; b++) {
+            six.box(9999, 999, 99);
+        }
+        CHECK.due("all of all", six.escort(12, 6), 12 * 99 - 60);
+        CHECK.due("caught", six.escorts(0), 12 * 9999 - 6 * 2 * 999);
+        for (int b = 0; b < 6; b++) {
+            CHECK.due("two each", six.escorts(100 + b), 2);
+            CHECK.due("the frigates last", six.escorts(200 + b), b == 5 ? 6 : 0);
+        }
         NetsCut y = new NetsCut();
         y.box(0, 999, 0);
         CHECK.due("below 0", y.escort(12, 6), 0);
@@ -81,11 +91,13 @@ public final class BoxTest {
             NetsCut x = new NetsCut();
             plain.boxes = new int[n][];
             for (int b = 0; b < n; b++) {
-                plain.boxes[b] = new int[] {random.nextInt(60), random.nextInt(6), random.nextInt(15)};
+                boolean great = run % 3 == 0;
+                plain.boxes[b] = new int[] {random.nextInt(great ? 10000 : 60), random.nextInt(great ? 1000 : 6),
+                    random.nextInt(great ? 100 : 15)};
                 x.box(plain.boxes[b][0], plain.boxes[b][1], plain.boxes[b][2]);
             }
-            int t = random.nextInt(n > 4 ? 5 : 9);
-            int f = random.nextInt(n > 4 ? 3 : 5);
+            int t = random.nextInt(n > 4 ? 5 : 13);
+            int f = random.nextInt(n > 4 ? 3 : 7);
             plain.tryAll(0, t, f, new int[n], new int[n]);
             CHECK.due("escort", x.escort(t, f), plain.bestCut);
             CHECK.due("caught", x.escorts(0), plain.bestCaught);

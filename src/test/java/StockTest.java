@@ -224,6 +224,12 @@ public final class StockTest {
         CHECK.due("never, for fish of no length", x.pays(10, 30, 500, 0, 1000), -2);
         CHECK.due("the next year", x.pays(10, 20, 500, 0, 1000), 2);
         CHECK.due("the smaller mesh at once", x.pays(20, 10, 500, 0, 1000), 1);
+        // 51516 of 51517 behind year 29, 55206 of 55177 behind year 30
+        NetsCut y = new NetsCut();
+        y.age(0, 2395, 50, 1);
+        y.age(7, 0, 60, 18);
+        CHECK.due("one coin short in year 29", y.pays(50, 60, 13, 51, 1849), 30);
+        CHECK.due("with 29 years", y.landed(29, 60, 13, 51, 1849), 51516);
         CHECK.due("a", x.pays(200, 0, 0, 0, 0), -1);
         CHECK.due("a", x.pays(-1, 0, 0, 0, 0), -1);
         CHECK.due("b", x.pays(0, 200, 0, 0, 0), -1);

@@ -191,12 +191,14 @@ public final class TownTest {
             int n = random.nextInt(10);
             int[][] term = new int[n][];
             for (int i = 0; i < n; i++) {
-                term[i] = new int[] {random.nextInt(21) - 10, random.nextInt(21) - 10};
+                int most = run % 3 == 0 ? 9999 : 10;
+                term[i] = new int[] {random.nextInt(2 * most + 1) - most, random.nextInt(2 * most + 1) - most};
                 x.term(term[i][0], term[i][1]);
             }
             for (int i = 0; i < 10; i++) {
-                int a = random.nextInt(60) - 20;
-                int b = random.nextInt(60) - 20;
+                int times = run % 3 == 0 ? 999 : 1;
+                int a = (random.nextInt(60) - 20) * times;
+                int b = (random.nextInt(60) - 20) * times;
                 int best = -2;
                 int[] bestKey = null;
                 for (int set = 0; set < 1 << n; set++) {
