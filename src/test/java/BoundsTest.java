@@ -122,9 +122,21 @@ public final class BoundsTest {
         asks("may", -1, author(), in(2, 0, 4), ship(), cell(), cell(), minute());
         asks("mesh", 0, author(), ship(), cell(), cell(), minute());
         asks("by", -1, in(0, 0, 2), in(2, 0, 4), ship(), cell(), cell(), minute());
+        thingsThatAreNoWhats();
         changes("act", -1, ship(), in(2, 0, 4), cell(), cell(), in(9, 0, NOW));
         asks("kept", -1, in(0, 0, Ready.ACTS - 1), author());
         asks("broken", -1, side(), author());
+    }
+
+    /** Each author has clauses of reach and mesh in force, author 1 one of strike: none of them is a WHAT. */
+    private static void thingsThatAreNoWhats() {
+        for (int author = 0; author < 3; author++) {
+            for (int what = 5; what < 16; what++) {
+                refused("by", -1, author, what, 1, 7, 7, 99);
+                refused("may", -1, author, what, 1, 7, 7, 99);
+                refused("act", -1, author, what, 7, 7, 99);
+            }
+        }
     }
 
     private static void games() {

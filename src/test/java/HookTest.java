@@ -14,6 +14,7 @@ public final class HookTest {
         byHand();
         wrongInputs();
         byPlaying();
+        gamesInTurn();
         CHECK.end();
     }
 
@@ -80,16 +81,44 @@ public final class HookTest {
             return;
         }
         NetsCut x = new NetsCut();
+        compareOn(x, -1, trawler, warder, frigate, n);
+    }
+
+    /** Plays one game on an object whose hooks() is known so far: what it has to be then. */
+    private int compareOn(NetsCut x, int hooks, int trawler, int warder, int frigate, int n) {
         int value = warderGoes(trawler, warder, frigate, n);
         String call = "hook(" + w + ", " + h + ", " + trawler + ", " + warder + ", " + frigate + ", " + n + ")";
         CHECK.due(call, x.hook(w, h, trawler, warder, frigate, n), value > n ? -2 : value);
-        CHECK.due("hooks by " + call, x.hooks(), firstMove(trawler, warder, frigate, n, value));
+        int due = value == 0 || value > n ? hooks : firstMove(trawler, warder, frigate, n, value);
+        CHECK.due("hooks by " + call, x.hooks(), due);
+        return due;
+    }
+
+    /** Games in boxes of all forms one behind the other on one object: none leaves anything for the next. */
+    private static void gamesInTurn() {
+        Random random = new Random(8);
+        HookTest[] games = new HookTest[25];
+        for (int i = 0; i < 25; i++) {
+            games[i] = new HookTest();
+            games[i].w = 1 + i % 5;
+            games[i].h = 1 + i / 5;
+        }
+        for (int run = 0; run < 60; run++) {
+            NetsCut x = new NetsCut();
+            int hooks = -1;
+            for (int call = 0; call < 250; call++) {
+                HookTest game = games[random.nextInt(25)];
+                int cells = game.w * game.h;
+                int warder = random.nextInt(cells);
+                int frigate = random.nextInt(2) * (1 + random.nextInt(cells)) - 1;
+                if (warder != frigate) {
+                    hooks = game.compareOn(x, hooks, random.nextInt(cells), warder, frigate, random.nextInt(9));
+                }
+            }
+        }
     }
 
     private int firstMove(int t, int wa, int f, int n, int value) {
-        if (value == 0 || value > n) {
-            return -1;
-        }
         for (int to = 0; to < w * h; to++) {
             if (isStep(wa, to) && to != f && 1 + frigateGoes(t, to, f, n) == value) {
                 return to;

@@ -25,6 +25,8 @@ public final class LawEdgeTest {
         twelveClauses();
         firstAlongTheText();
         faultsLeaveNothing();
+        faultsLeaveNothingForTheNext();
+        manyFaultsTakeNoRoom();
         fromAMinuteOn();
         struckFromAMinuteOn();
         latestGoesAhead();
@@ -360,16 +362,51 @@ public final class LawEdgeTest {
         fault(facts + "no ", facts.length() + 3, 0);
     }
 
+    private static final String[] FAULTY = {"", "~", "may land;may cut;reach", "reach 20;mesh 123456", "strike 0;strike 9",
+        "mesh 7;may land;strike 0;~", "reach " + many(11, "("), "reach 9;mesh x" + many(80, "+y"),
+        "not fish" + many(12, ";not fish"), "not fish if 1=2;mesh 9 unless 1=1;not stop if 1=1 or", "reach 9 unless 1=1;",
+        "may fish if no no no", "mesh 5 if 1=2;reach 6 if 1=2;may cut if 1=2;not land unless 1=1;strike 0;mesh 1 2"};
+
     private static void faultsLeaveNothing() {
-        String[] texts = {"", "~", "may land;may cut;reach", "reach 20;mesh 123456", "strike 0;strike 9", "mesh 7;may land;strike 0;~",
-            "reach " + many(11, "("), "reach 9;mesh x" + many(80, "+y"), "not fish" + many(12, ";not fish")};
-        for (String text : texts) {
+        for (String text : FAULTY) {
             NetsCut x = Ready.sea();
             NetsCut twin = Ready.sea();
             x.end(0);
             twin.end(0);
             CHECK.due("'" + text + "'", Check.enact(x, 1, Ready.NOW, text) <= -3, true);
             CHECK.due("nothing is left of '" + text + "'", Ready.picture(x).equals(Ready.picture(twin)), true);
+        }
+    }
+
+    /** What is told behind a fault, or behind many, is as if the faults had never been on the tape. */
+    private static void faultsLeaveNothingForTheNext() {
+        String[] next = {"reach 7", "may cut", "mesh 8;not fish;may stop", "not land;mesh 8;reach 7;may lean;may cut;mesh 3",
+            "mesh 8 if 1=1;not fish unless 1=2;may stop if 1=1"};
+        for (String text : next) {
+            for (String faulty : FAULTY) {
+                NetsCut x = Ready.sea();
+                NetsCut twin = Ready.sea();
+                x.end(0);
+                twin.end(0);
+                Check.enact(x, 0, Ready.NOW, faulty);
+                Check.type(x, text);
+                Check.type(twin, text);
+                CHECK.due("'" + text + "' behind '" + faulty + "'", Ready.picture(x).equals(Ready.picture(twin)), true);
+            }
+        }
+    }
+
+    /** However many faults there were, the next text has all the room that the document gives it. */
+    private static void manyFaultsTakeNoRoom() {
+        NetsCut x = new NetsCut();
+        x.ship(0, 0, 1, 0);
+        for (int s = 0; s < 12; s++) {
+            for (int i = 0; i < 2; i++) {
+                CHECK.due("a long text with a fault at its end", Check.enact(x, 0, 0, "mesh 1" + many(79, "*1") + "~"),
+                        Check.fault(6 + 79 * 2, 0));
+            }
+            CHECK.due("eighty values", Check.enact(x, 0, 0, "mesh " + s + many(79, "+x")), s);
+            CHECK.due("statute " + s, x.mesh(0, 0, 2, 0, 0), s + 79 * 2);
         }
     }
 

@@ -24,7 +24,7 @@ final class Ready {
         for (int s = 0; s < SHIPS; s++) {
             x.report(s, s, 0, 3 * s + 2, 4);
             String mesh = s == 2 ? "net*99+kind*9+side*5+speed" : "9+speed";
-            Check.enact(x, s, 0, "mesh " + mesh + ";may fish;may stop;not cut;may lean;not land");
+            Check.enact(x, s, 0, "mesh " + mesh + ";may fish;may stop;not cut;may lean;not land;reach 4");
         }
         Check.enact(x, 1, 50, "strike 1;reach 6;may cut if inside=1 and depth<60;mesh x+1");
         x.clock(NOW);
@@ -64,7 +64,7 @@ final class Ready {
         return x;
     }
 
-    /** Some 170 calls: first those that only ask, then those that show what is held by changing it. */
+    /** Some 180 calls: first those that only ask, then those that show what is held by changing it. */
     static List<Long> picture(NetsCut x) {
         List<Long> seen = new ArrayList<>();
         askSea(x, seen);
@@ -128,7 +128,10 @@ final class Ready {
         for (int row = 0; row < 3; row++) {
             see(seen, x.year(row, 0, 1), x.year(row, 1, 1), x.year(row, 39, 1));
         }
-        see(seen, x.statute(0, 8999), x.reach(0, 8999));
+        see(seen, x.statute(0, 8999), x.reach(0, 8999), x.mesh(0, 1, 7, 7, 8999));
+        for (int what = 0; what < 5; what++) {
+            see(seen, x.by(0, what, 1, 7, 7, 8999), x.may(0, what, 1, 7, 7, 8999));
+        }
         for (int s = 0; s < SHIPS; s++) {
             see(seen, x.chain(s, 8999), x.chained(0), x.chained(1), x.chained(2));
         }
