@@ -156,6 +156,12 @@ public final class BoundsTest {
             refused("hook", -1, w, h, 0, last, last, 8);
             refused("hook", -1, w, h, last, last, last, 8);
         }
+        // only the frigate may be NONE, whether or not there is one
+        for (int frigate : new int[] {-1, 0, 24}) {
+            refused("hook", -1, 5, 5, 7, -1, frigate, 8);
+            refused("hook", -1, 5, 5, -1, 7, frigate, 8);
+            refused("hook", -1, 5, 5, -1, -1, frigate, 8);
+        }
         // a hook in 0 minutes, and one that is not by then, leave hooks() as it was
         taken("hook", -1, true, 5, 5, 7, 7, -1, 8);
         taken("hook", -1, true, 5, 5, 0, 24, -1, 8);
