@@ -573,6 +573,8 @@ public final class LawEdgeTest {
         String top = "65536*65536*65536*32768";
         CHECK.due("2^63 - 1", mesh(top + "-1", ship), Long.MAX_VALUE);
         CHECK.due("2^63", mesh(top, ship), Long.MIN_VALUE);
+        CHECK.due("2^63 by adding", mesh(top + "-1+1", ship), Long.MIN_VALUE);
+        CHECK.due("-2^63 + -2^63", mesh(top + "+" + top, ship), 0);
         CHECK.due("-2^63 - 1", mesh("0-" + top + "-1", ship), Long.MAX_VALUE);
         CHECK.due("2^64", mesh("65536*65536*65536*65536", ship), 0);
         CHECK.due("99999^13", mesh("99999" + many(12, "*99999"), ship), power(99999, 13));

@@ -14,6 +14,7 @@ public final class SeaEdgeTest {
         whereIsByItself();
         bothCanBeUpToTheSpeed();
         oneMinuteIsOneCell();
+        bothCanBeByItsOwnSpeed();
         chainsAreInOrder();
         firstOfSeveralChains();
         chainsOfAll();
@@ -205,6 +206,23 @@ public final class SeaEdgeTest {
             CHECK.due("the same cell", both(speed, 0, 0, 0), 1);
             CHECK.due("the next in x", both(speed, 0, 1, 0), 0);
             CHECK.due("the next in y", both(speed, 0, 0, -1), 0);
+        }
+    }
+
+    /** Each ship's speed is its own, whoever reports it. */
+    private static void bothCanBeByItsOwnSpeed() {
+        NetsCut x = new NetsCut();
+        for (int ship = 0; ship < 6; ship++) {
+            x.ship(ship % 2, ship % 3, 1 + ship % 3, 0);
+        }
+        x.clock(2);
+        for (int ship = 0; ship < 6; ship++) {
+            x.report(5 - ship, ship, 0, 10, 10);
+            x.report(5 - ship, ship, 2, 10, 14);
+        }
+        for (int ship = 0; ship < 6; ship++) {
+            CHECK.due("4 in 2 minutes with speed " + (1 + ship % 3), x.chain(ship, 2), ship % 3 == 0 ? 1 : 2);
+            CHECK.due("its first report", x.chained(0), 2 * ship);
         }
     }
 
