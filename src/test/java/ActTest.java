@@ -1,3 +1,5 @@
+import java.util.Random;
+
 /** Promises 22 to 24: act, kept, broken. */
 public final class ActTest {
     private static final Check CHECK = new Check("ActTest");
@@ -6,6 +8,7 @@ public final class ActTest {
         acts();
         kept();
         broken();
+        keptAsItMay();
         CHECK.end();
     }
 
@@ -93,5 +96,54 @@ public final class ActTest {
         CHECK.due("side", x.broken(-1, 0), -1);
         CHECK.due("author", x.broken(0, 3), -1);
         CHECK.due("author", x.broken(0, -1), -1);
+    }
+
+    /** An act is kept if may() and mesh() say so for the same ship, cell and minute; broken() counts the others. */
+    private static void keptAsItMay() {
+        String[] words = {"minute", "x", "y", "depth", "side", "kind", "net", "speed", "inside"};
+        Random random = new Random(31);
+        for (int run = 0; run < 100; run++) {
+            NetsCut x = new NetsCut();
+            int[] net = new int[5];
+            for (int s = 0; s < net.length; s++) {
+                net[s] = random.nextInt(200);
+                x.ship(random.nextInt(2), random.nextInt(3), 1 + random.nextInt(3), net[s]);
+                x.point(random.nextInt(2), random.nextInt(24), random.nextInt(24));
+            }
+            for (int author = 0; author < 3; author++) {
+                String word = words[random.nextInt(words.length)];
+                Check.enact(x, author, random.nextInt(3), "mesh " + word + "*" + (1 + random.nextInt(9)) + "+" + random.nextInt(90)
+                        + " unless " + words[random.nextInt(words.length)] + "=" + random.nextInt(9));
+                Check.enact(x, author, random.nextInt(3), "not fish if " + words[random.nextInt(words.length)] + "<" + random.nextInt(5)
+                        + ";may cut if " + words[random.nextInt(words.length)] + ">" + random.nextInt(9));
+            }
+            x.clock(9);
+            keptAsItMay(x, net, random);
+        }
+    }
+
+    private static void keptAsItMay(NetsCut x, int[] net, Random random) {
+        int[][] broken = new int[net.length][3];
+        for (int a = 0; a < 30; a++) {
+            int ship = random.nextInt(net.length);
+            int what = random.nextInt(3) == 0 ? random.nextInt(5) : 0;
+            int cx = random.nextInt(24);
+            int cy = random.nextInt(24);
+            int minute = random.nextInt(10);
+            CHECK.due("act", x.act(ship, what, cx, cy, minute), a);
+            for (int author = 0; author < 3; author++) {
+                boolean may = x.may(author, what, ship, cx, cy, minute) == 1;
+                boolean kept = may && (what != 0 || net[ship] >= x.mesh(author, ship, cx, cy, minute));
+                CHECK.due("kept", x.kept(a, author), kept ? 1 : 0);
+                broken[ship][author] += kept ? 0 : 1;
+            }
+        }
+        for (int author = 0; author < 3; author++) {
+            int all = 0;
+            for (int[] of : broken) {
+                all += of[author];
+            }
+            CHECK.due("broken by both sides", x.broken(0, author) + x.broken(1, author), all);
+        }
     }
 }

@@ -12,6 +12,7 @@ public final class LineTest {
         inside();
         beside();
         linesByTrying();
+        shipsByTrying();
         CHECK.end();
     }
 
@@ -163,6 +164,45 @@ public final class LineTest {
                     near = Math.sqrt(dx * dx + dy * dy) <= reach ? 1 : near;
                 }
                 CHECK.due("within", x.within(1, chart, cx, cy, 0), near);
+            }
+        }
+    }
+
+    /** inside() and beside() against within(), report by report and ship by ship. */
+    private static void shipsByTrying() {
+        Random random = new Random(6);
+        for (int run = 0; run < 60; run++) {
+            NetsCut x = new NetsCut();
+            int[] side = new int[12];
+            int[] place = new int[12];
+            for (int s = 0; s < side.length; s++) {
+                side[s] = random.nextInt(2);
+                x.ship(side[s], 0, 1, 0);
+                x.point(random.nextInt(2), random.nextInt(24), random.nextInt(24));
+            }
+            x.chart(random.nextInt(7) - 3, random.nextInt(7) - 3);
+            int reach = random.nextInt(9);
+            Check.enact(x, 0, 0, "reach " + reach);
+            Check.enact(x, 1, 0, "reach " + reach);
+            int[] beside = new int[2];
+            for (int r = 0; r < 40; r++) {
+                int by = random.nextInt(side.length);
+                int of = random.nextInt(3) == 0 ? random.nextInt(side.length) : by;
+                place[by] = by == of ? 1 + random.nextInt(576) : place[by];
+                int cell = by == of ? place[by] - 1 : random.nextInt(576);
+                x.report(by, of, 0, cell % 24, cell / 24);
+                beside[1 - side[of]] += by == of ? x.within(1 - side[of], 0, cell % 24, cell / 24, 0) : 0;
+            }
+            for (int of = 0; of < 2; of++) {
+                CHECK.due("beside", x.beside(of, reach), beside[of]);
+                for (int chart = 0; chart < 2; chart++) {
+                    long inside = 0;
+                    for (int s = 0; s < side.length; s++) {
+                        boolean is = side[s] != of && place[s] > 0;
+                        inside |= is ? (long) x.within(of, chart, (place[s] - 1) % 24, (place[s] - 1) / 24, 0) << s : 0;
+                    }
+                    CHECK.due("inside", x.inside(of, chart, 0, 0), inside);
+                }
             }
         }
     }
