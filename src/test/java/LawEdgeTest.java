@@ -21,6 +21,7 @@ public final class LawEdgeTest {
         numbersOfFiveDigits();
         struckOnesWereTold();
         tenDeep();
+        asDeepBehindASign();
         eightyValues();
         twelveClauses();
         firstAlongTheText();
@@ -286,6 +287,33 @@ public final class LawEdgeTest {
         fault(nine + "1=1 or no 1=1" + many(9, "]"), nine.length() + 7, 2);
         fault(nine + "1=(1)" + many(9, "]"), nine.length() + 2, 2);
         fault("mesh 1;mesh " + many(11, "("), 12 + 10, 2);
+    }
+
+    /** What a sign or a word joins is as deep on its right as on its left, however many there were. */
+    private static void asDeepBehindASign() {
+        for (String sign : new String[] {"+", "-", "*"}) {
+            String ten = "mesh " + many(10, "(") + "1" + sign;
+            fault(ten + "(1)" + many(10, ")"), ten.length(), 2);
+            fine(ten + "1" + many(10, ")"));
+            fine("mesh " + many(9, "(") + "1" + sign + "(1)" + many(9, ")"));
+            fine("mesh 1" + many(12, sign + "1") + sign + many(10, "(") + "1" + many(10, ")"));
+        }
+        for (String sign : new String[] {"<", "<=", "=", ">=", ">"}) {
+            String ten = "may cut if " + many(10, "[") + "1" + sign;
+            fault(ten + "(1)" + many(10, "]"), ten.length(), 2);
+            fine(ten + "1" + many(10, "]"));
+            fine("may cut if " + many(9, "[") + "1" + sign + "(1)" + many(9, "]"));
+            fine("may cut if 1" + sign + many(10, "(") + "1" + many(10, ")"));
+        }
+        for (String word : new String[] {" and ", " or "}) {
+            for (String opener : new String[] {"[", "no ", "("}) {
+                String ten = "may cut if " + many(10, "[") + "1=1" + word;
+                fault(ten + opener, ten.length(), 2);
+                fine(ten + "1=1" + many(10, "]"));
+            }
+            fine("may cut if " + many(9, "[") + "1=1" + word + "[1=1]" + word + "no 1=1" + word + "(1)=1" + many(9, "]"));
+            fine("may cut if 1=1" + many(12, word + "1=1") + word + many(10, "[") + "1=1" + many(10, "]"));
+        }
     }
 
     private static void eightyValues() {

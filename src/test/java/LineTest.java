@@ -181,9 +181,9 @@ public final class LineTest {
                 x.point(random.nextInt(2), random.nextInt(24), random.nextInt(24));
             }
             x.chart(random.nextInt(7) - 3, random.nextInt(7) - 3);
-            int reach = random.nextInt(9);
-            Check.enact(x, 0, 0, "reach " + reach);
-            Check.enact(x, 1, 0, "reach " + reach);
+            int[] reach = {random.nextInt(9), random.nextInt(9)};
+            Check.enact(x, 0, 0, "reach " + reach[0]);
+            Check.enact(x, 1, 0, "reach " + reach[1]);
             int[] beside = new int[2];
             for (int r = 0; r < 40; r++) {
                 int by = random.nextInt(side.length);
@@ -194,7 +194,7 @@ public final class LineTest {
                 beside[1 - side[of]] += by == of ? x.within(1 - side[of], 0, cell % 24, cell / 24, 0) : 0;
             }
             for (int of = 0; of < 2; of++) {
-                CHECK.due("beside", x.beside(of, reach), beside[of]);
+                CHECK.due("beside", x.beside(of, reach[of]), beside[of]);
                 for (int chart = 0; chart < 2; chart++) {
                     long inside = 0;
                     for (int s = 0; s < side.length; s++) {

@@ -20,6 +20,7 @@ public final class WayTest {
         CHECK.due("b lies still to the right", way(5, 5, 6, 5, 6, 7, 6, 7), 1);
         CHECK.due("each overtakes the other", way(5, 6, 6, 7, 5, 5, 7, 4), 0);
         wrongInputs();
+        laterOnesDoNotCount();
         byTrying();
         CHECK.end();
     }
@@ -55,6 +56,29 @@ public final class WayTest {
         CHECK.due("one ship", x.way(0, 0, 2, 1), -1);
         CHECK.due("a", x.way(2, 0, 2, 1), -1);
         CHECK.due("b", x.way(0, -1, 2, 1), -1);
+    }
+
+    /** Each ship's course is of the minute, though more is known of it later. */
+    private static void laterOnesDoNotCount() {
+        int[] cells = {5, 5, 6, 5, 8, 8, 8, 7};
+        for (int later = 0; later < 2; later++) {
+            NetsCut x = new NetsCut();
+            x.ship(0, 0, 1, 0);
+            x.ship(1, 0, 1, 0);
+            x.clock(9);
+            for (int s = 0; s < 2; s++) {
+                x.report(s, s, 4, cells[4 * s], cells[4 * s + 1]);
+                x.report(s, s, 5, cells[4 * s + 2], cells[4 * s + 3]);
+            }
+            x.report(later, later, 6, 20 * later, 20 - 20 * later);
+            x.report(later, later, 8, 23 - 20 * later, 20 * later);
+            CHECK.due("a has to in 5", x.way(0, 1, 5, 9), 1);
+            CHECK.due("b the other way round", x.way(1, 0, 5, 9), 2);
+            x.clock(10);
+            x.report(later, later, 5, cells[4 * later], cells[4 * later + 1]);
+            CHECK.due("as known in 9", x.way(0, 1, 5, 9), 1);
+            CHECK.due("as known in 10 one lay still", x.way(0, 1, 5, 10), later == 0 ? 0 : 1);
+        }
     }
 
     private static void byTrying() {
